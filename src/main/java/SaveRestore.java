@@ -276,9 +276,6 @@ public final class SaveRestore {
                 staying++;
             }
         }
-        for (int place = staying; place < thingCount; place++) {
-            things[place] = null;
-        }
         thingCount = staying;
     }
 

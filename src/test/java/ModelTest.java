@@ -1,4 +1,6 @@
+import java.util.ArrayDeque;
 import java.util.ArrayList;
+import java.util.Deque;
 import java.util.List;
 import java.util.Random;
 import java.util.Set;
@@ -16,6 +18,7 @@ public final class ModelTest {
     private final Random random;
     private final int[] weights = new int[NAMES.length];
     private final int wrongPercent;
+    private final Deque<String> living = new ArrayDeque<>();
     private int objectsMade = 0;
     private int savesMade = 0;
 
@@ -71,8 +74,14 @@ public final class ModelTest {
         if (answer.startsWith("throws.")) {
             return;
         }
-        objectsMade += call.startsWith("object(") ? 1 : 0;
-        savesMade += call.startsWith("save(") ? 1 : 0;
+        if (call.startsWith("object(")) {
+            objectsMade++;
+        } else if (call.startsWith("save(")) {
+            savesMade++;
+            living.push(answer);
+        } else if (call.startsWith("restore(") && answer.equals("1")) {
+            living.pop();
+        }
     }
 
     private String nextCall() {
@@ -137,10 +146,12 @@ public final class ModelTest {
         return random.nextBoolean() ? random.nextInt(9) : -1 - object();
     }
 
+    /** Mostly the latest that lives, since no other one can be restored. */
     private int saveNumber() {
         if (wrongOne()) {
             return random.nextBoolean() ? 0 : extreme();
         }
-        return Math.max(0, savesMade + 1 - random.nextInt(10));
+        boolean latest = !living.isEmpty() && random.nextInt(4) != 0;
+        return latest ? Integer.parseInt(living.peek()) : Math.max(0, savesMade + 1 - random.nextInt(10));
     }
 }
