@@ -11,7 +11,8 @@ public final class ModelTest {
     private static final int CALLS_OF_A_RUN = 512;
     private static final int CALLS_BEYOND = 60000;
     private static final String[] NAMES = {
-        "object", "put", "get", "save", "restore", "state", "stateOf", "push", "pop", "bytes", "used", "old", "deepest"};
+        "object", "put", "get", "save", "restore", "state", "stateOf", "push", "pop",
+        "bytes", "used", "old", "deepest"};
     private static final Set<String> NAMED_EXCEPTIONS = Set.of("throws.UnsupportedOperationException",
         "throws.NoSuchElementException", "throws.IndexOutOfBoundsException", "throws.IllegalStateException");
 

@@ -1,36 +1,5 @@
 /** For each promise of the document: ordinary inputs, the edges that it names, and wrong inputs. */
 public final class PromisesTest {
-    private static final String LEAST = String.valueOf(Integer.MIN_VALUE);
-    private static final String GREATEST = String.valueOf(Integer.MAX_VALUE);
-
-    /** Objects 0 local, 1 global, 2 local and newer than save 1, 3 local and newer than save 2; 3 pushed states. */
-    private static final String BUSY = """
-        object(false) = 0
-        object(true) = 1
-        put(0, 0, 5) = 0
-        put(0, 1, -2) = 0
-        put(1, 7, 8) = 0
-        bytes(0, 0, 65) = 0
-        state(0, 1) = 0
-        push() = 1
-        state(0, 2) = 1
-        save() = 1
-        object(false) = 2
-        put(0, 0, 6) = 5
-        put(2, 2, -1) = 0
-        state(0, 3) = 2
-        push() = 1
-        state(0, 4) = 3
-        save() = 2
-        object(false) = 3
-        put(2, 3, -4) = 0
-        put(0, 0, 7) = 6
-        state(0, 5) = 4
-        push() = 1
-        state(8, -2) = 0
-        state(0, -4) = 5
-        """;
-
     private final Check check = new Check();
 
     private PromisesTest() {
@@ -58,24 +27,6 @@ public final class PromisesTest {
         tests.check.end();
     }
 
-    /** The line once for each number first .. last, "#" being the number. */
-    private static String each(int first, int last, String line) {
-        StringBuilder lines = new StringBuilder();
-        for (int number = first; number <= last; number++) {
-            lines.append(line.replace("#", String.valueOf(number))).append('\n');
-        }
-        return lines.toString();
-    }
-
-    /** The line once for each number last .. first, going down. */
-    private static String eachDown(int last, int first, String line) {
-        StringBuilder lines = new StringBuilder();
-        for (int number = last; number >= first; number--) {
-            lines.append(line.replace("#", String.valueOf(number))).append('\n');
-        }
-        return lines.toString();
-    }
-
     private void promise1NewObject() {
         check.run("1 new", """
             used() = 0
@@ -84,7 +35,7 @@ public final class PromisesTest {
             old(0) = throws.NoSuchElementException
             restore(1) = -1
             pop() = -1
-            """ + each(0, 9, "stateOf(#) = 0"));
+            """ + Lines.each(0, 9, "stateOf(#) = 0"));
         SaveRestore other = check.run("1 other", "object(false) = 0\n save() = 1\n state(0, 3) = 0\n");
         check.run("1 apart from another", "object(true) = 0\n save() = 1\n stateOf(0) = 0\n deepest() = 1\n");
         check.go("1 other stays", other, "used() = 18\n stateOf(0) = 3\n");
@@ -92,15 +43,15 @@ public final class PromisesTest {
 
     private void promise2Object() {
         check.run("2 cells and bytes are 0", "object(false) = 0\n object(true) = 1\n"
-            + each(0, 7, "get(0, #) = 0\n get(1, #) = 0\n bytes(0, #, -1) = 0\n bytes(1, #, -1) = 0"));
-        check.run("2 at most 200", each(0, 199, "object(false) = #")
+            + Lines.each(0, 7, "get(0, #) = 0\n get(1, #) = 0\n bytes(0, #, -1) = 0\n bytes(1, #, -1) = 0"));
+        check.run("2 at most 200", Lines.each(0, 199, "object(false) = #")
             + "object(false) = throws.UnsupportedOperationException\n"
             + "object(true) = throws.UnsupportedOperationException\n"
             + "used() = 2400\n get(199, 7) = 0\n get(200, 0) = throws.NoSuchElementException\n");
         check.run("2 those that are gone do not count, and their numbers are not given again",
-            "save() = 1\n" + each(0, 99, "object(false) = #") + each(100, 199, "object(true) = #")
+            "save() = 1\n" + Lines.each(0, 99, "object(false) = #") + Lines.each(100, 199, "object(true) = #")
             + "object(true) = throws.UnsupportedOperationException\n restore(1) = 1\n used() = 1200\n"
-            + each(200, 299, "object(false) = #") + "object(false) = throws.UnsupportedOperationException\n"
+            + Lines.each(200, 299, "object(false) = #") + "object(false) = throws.UnsupportedOperationException\n"
             + "get(99, 0) = throws.NoSuchElementException\n get(100, 0) = 0\n get(299, 0) = 0\n");
         check.run("2 a new one is not what the gone one was", """
             save() = 1
@@ -112,7 +63,7 @@ public final class PromisesTest {
             get(1, 0) = 0
             bytes(1, 0, -1) = 0
             """);
-        check.idle("2 idle", each(0, 99, "object(false) = #") + each(100, 199, "object(true) = #"),
+        check.idle("2 idle", Lines.each(0, 99, "object(false) = #") + Lines.each(100, 199, "object(true) = #"),
             "object(true) = throws.UnsupportedOperationException\n"
             + "object(false) = throws.UnsupportedOperationException\n");
     }
@@ -132,8 +83,8 @@ public final class PromisesTest {
             get(1, 0) = -2
             get(1, 7) = 3
             get(0, 6) = 0
-            """.formatted(GREATEST, GREATEST));
-        check.idle("3 refused", BUSY, """
+            """.formatted(Lines.GREATEST, Lines.GREATEST));
+        check.idle("3 refused", Lines.BUSY, """
             put(4, 0, 1) = throws.NoSuchElementException
             put(-1, 0, 1) = throws.NoSuchElementException
             put(%s, 0, 1) = throws.NoSuchElementException
@@ -151,7 +102,7 @@ public final class PromisesTest {
             put(1, -1, -1) = throws.IndexOutOfBoundsException
             put(1, 0, -1) = throws.IllegalStateException
             put(1, 7, -3) = throws.IllegalStateException
-            """.formatted(LEAST, GREATEST, LEAST, LEAST, GREATEST));
+            """.formatted(Lines.LEAST, Lines.GREATEST, Lines.LEAST, Lines.LEAST, Lines.GREATEST));
         check.run("3 what is gone can't be referred to", """
             object(false) = 0
             object(true) = 1
@@ -222,8 +173,8 @@ public final class PromisesTest {
             get(0, 3) = 0
             used() = 12
             """);
-        check.run("3 all cells of all objects in many saves", each(0, 3, "object(false) = #")
-            + each(1, 9, "save() = #\n" + zeroInEachCellOfFour()) + "used() = " + (48 + 9 * (6 + 32 * 3)) + "\n");
+        check.run("3 all cells of all objects in many saves", Lines.each(0, 3, "object(false) = #")
+            + Lines.each(1, 9, "save() = #\n" + zeroInEachCellOfFour()) + "used() = " + (48 + 9 * (6 + 32 * 3)) + "\n");
     }
 
     private static String zeroInEachCellOfFour() {
@@ -238,9 +189,9 @@ public final class PromisesTest {
 
     private void promise4Get() {
         check.run("4 each cell apart", "object(false) = 0\n object(true) = 1\n"
-            + each(0, 7, "put(0, #, 1#) = 0\n put(1, #, 2#) = 0")
-            + each(0, 7, "get(0, #) = 1#\n get(1, #) = 2#"));
-        check.idle("4 refused", BUSY, """
+            + Lines.each(0, 7, "put(0, #, 1#) = 0\n put(1, #, 2#) = 0")
+            + Lines.each(0, 7, "get(0, #) = 1#\n get(1, #) = 2#"));
+        check.idle("4 refused", Lines.BUSY, """
             get(4, 0) = throws.NoSuchElementException
             get(-1, 0) = throws.NoSuchElementException
             get(%s, 0) = throws.NoSuchElementException
@@ -250,7 +201,7 @@ public final class PromisesTest {
             get(0, -1) = throws.IndexOutOfBoundsException
             get(1, %s) = throws.IndexOutOfBoundsException
             get(1, %s) = throws.IndexOutOfBoundsException
-            """.formatted(LEAST, GREATEST, LEAST, GREATEST));
+            """.formatted(Lines.LEAST, Lines.GREATEST, Lines.LEAST, Lines.GREATEST));
     }
 
     private void promise5Save() {
@@ -263,25 +214,28 @@ public final class PromisesTest {
             save() = 4
             used() = 12
             """);
-        check.run("5 at most 16 live", each(1, 16, "save() = #")
+        check.run("5 at most 16 live", Lines.each(1, 16, "save() = #")
             + "save() = throws.UnsupportedOperationException\n used() = 96\n restore(16) = 1\n save() = 17\n"
             + "save() = throws.UnsupportedOperationException\n restore(17) = 1\n restore(15) = 1\n save() = 18\n");
-        check.idle("5 refused", BUSY + each(3, 16, "save() = #") + eachDown(16, 4, "put(0, 0, 7) = 7"),
+        check.idle("5 refused",
+            Lines.BUSY + Lines.each(3, 16, "save() = #") + Lines.eachDown(16, 4, "put(0, 0, 7) = 7"),
             "save() = throws.UnsupportedOperationException\n save() = throws.UnsupportedOperationException\n");
     }
 
     private void promise6Restore() {
-        check.idle("6 never made", BUSY, """
+        check.idle("6 never made", Lines.BUSY, """
             restore(0) = -1
             restore(3) = -1
             restore(-1) = -1
             restore(%s) = -1
             restore(%s) = -1
-            """.formatted(LEAST, GREATEST));
-        check.idle("6 lives no more", BUSY + "save() = 3\n restore(3) = 1\n", "restore(3) = -2\n restore(3) = -2\n");
-        check.idle("6 a later one lives", BUSY, "restore(1) = -3\n restore(1) = -3\n");
-        check.idle("6 a kept one refers to a newer", BUSY + "state(9, -4) = 0\n", "restore(2) = -4\n restore(2) = -4\n");
-        check.idle("6 the other kept one, too", BUSY + "state(8, -4) = -2\n", "restore(2) = -4\n");
+            """.formatted(Lines.LEAST, Lines.GREATEST));
+        check.idle("6 lives no more", Lines.BUSY + "save() = 3\n restore(3) = 1\n",
+            "restore(3) = -2\n restore(3) = -2\n");
+        check.idle("6 a later one lives", Lines.BUSY, "restore(1) = -3\n restore(1) = -3\n");
+        check.idle("6 a kept one refers to a newer", Lines.BUSY + "state(9, -4) = 0\n",
+            "restore(2) = -4\n restore(2) = -4\n");
+        check.idle("6 the other kept one, too", Lines.BUSY + "state(8, -4) = -2\n", "restore(2) = -4\n");
         check.run("6 the first answer that fits", """
             save() = 1
             save() = 2
@@ -298,12 +252,12 @@ public final class PromisesTest {
             restore(1) = -4
             restore(4) = -1
             """);
-        check.run("6 sixteen, then none", each(1, 16, "save() = #") + each(1, 15, "restore(#) = -3")
-            + eachDown(16, 1, "restore(#) = 1\n restore(#) = -2") + "used() = 0\n save() = 17\n");
+        check.run("6 sixteen, then none", Lines.each(1, 16, "save() = #") + Lines.each(1, 15, "restore(#) = -3")
+            + Lines.eachDown(16, 1, "restore(#) = 1\n restore(#) = -2") + "used() = 0\n save() = 17\n");
     }
 
     private void promise6Undoes() {
-        check.run("6 undoes", BUSY + """
+        check.run("6 undoes", Lines.BUSY + """
             bytes(0, 0, 66) = 65
             bytes(2, 1, 9) = 0
             put(1, 7, 9) = 8
@@ -340,13 +294,13 @@ public final class PromisesTest {
             pop() = -1
             deepest() = 2
             """);
-        check.run("6 all parameters but the kept ones", each(0, 9, "state(#, 1#) = 0") + "save() = 1\n"
-            + each(0, 9, "state(#, 2#) = 1#") + "restore(1) = 1\n"
-            + each(0, 7, "stateOf(#) = 1#") + each(8, 9, "stateOf(#) = 2#"));
+        check.run("6 all parameters but the kept ones", Lines.each(0, 9, "state(#, 1#) = 0") + "save() = 1\n"
+            + Lines.each(0, 9, "state(#, 2#) = 1#") + "restore(1) = 1\n"
+            + Lines.each(0, 7, "stateOf(#) = 1#") + Lines.each(8, 9, "stateOf(#) = 2#"));
         check.run("6 all cells, also put twice", "object(false) = 0\n object(true) = 1\n"
-            + each(0, 7, "put(0, #, 1#) = 0\n put(1, #, 1#) = 0") + "save() = 1\n"
-            + each(0, 7, "put(0, #, 2#) = 1#\n put(0, #, 3#) = 2#\n put(1, #, 3#) = 1#") + "restore(1) = 1\n"
-            + each(0, 7, "get(0, #) = 1#\n get(1, #) = 3#"));
+            + Lines.each(0, 7, "put(0, #, 1#) = 0\n put(1, #, 1#) = 0") + "save() = 1\n"
+            + Lines.each(0, 7, "put(0, #, 2#) = 1#\n put(0, #, 3#) = 2#\n put(1, #, 3#) = 1#") + "restore(1) = 1\n"
+            + Lines.each(0, 7, "get(0, #) = 1#\n get(1, #) = 3#"));
         check.run("6 what a restored save kept is used no more", """
             object(false) = 0
             save() = 1
@@ -393,10 +347,11 @@ public final class PromisesTest {
 
     private void promise7State() {
         check.run("7 values", "object(false) = 0\n object(true) = 1\n"
-            + each(0, 9, "state(#, 1#) = 0") + each(0, 9, "state(#, -1) = 1#") + each(0, 9, "state(#, -2) = -1")
-            + each(0, 9, "state(#, " + GREATEST + ") = -2") + each(0, 9, "stateOf(#) = " + GREATEST));
+            + Lines.each(0, 9, "state(#, 1#) = 0") + Lines.each(0, 9, "state(#, -1) = 1#")
+            + Lines.each(0, 9, "state(#, -2) = -1") + Lines.each(0, 9, "state(#, " + Lines.GREATEST + ") = -2")
+            + Lines.each(0, 9, "stateOf(#) = " + Lines.GREATEST));
         check.run("7 makes no row", "save() = 1\n state(0, 1) = 0\n state(9, 1) = 0\n used() = 6\n");
-        check.idle("7 refused", BUSY, """
+        check.idle("7 refused", Lines.BUSY, """
             state(0, -5) = throws.NoSuchElementException
             state(9, %s) = throws.NoSuchElementException
             state(10, -5) = throws.NoSuchElementException
@@ -405,7 +360,7 @@ public final class PromisesTest {
             state(-1, -1) = throws.IndexOutOfBoundsException
             state(%s, 0) = throws.IndexOutOfBoundsException
             state(%s, 0) = throws.IndexOutOfBoundsException
-            """.formatted(LEAST, LEAST, GREATEST));
+            """.formatted(Lines.LEAST, Lines.LEAST, Lines.GREATEST));
         check.run("7 what is gone can't be referred to", """
             save() = 1
             object(false) = 0
@@ -417,13 +372,13 @@ public final class PromisesTest {
     }
 
     private void promise8StateOf() {
-        check.run("8 each apart", each(0, 9, "state(#, 3#) = 0") + each(0, 9, "stateOf(#) = 3#"));
-        check.idle("8 refused", BUSY, """
+        check.run("8 each apart", Lines.each(0, 9, "state(#, 3#) = 0") + Lines.each(0, 9, "stateOf(#) = 3#"));
+        check.idle("8 refused", Lines.BUSY, """
             stateOf(10) = throws.IndexOutOfBoundsException
             stateOf(-1) = throws.IndexOutOfBoundsException
             stateOf(%s) = throws.IndexOutOfBoundsException
             stateOf(%s) = throws.IndexOutOfBoundsException
-            """.formatted(LEAST, GREATEST));
+            """.formatted(Lines.LEAST, Lines.GREATEST));
     }
 
     private void promise9Push() {
@@ -444,20 +399,21 @@ public final class PromisesTest {
             """);
         check.run("9 the parameters stay", "state(3, 7) = 0\n state(9, 8) = 0\n push() = 1\n"
             + "stateOf(3) = 7\n stateOf(9) = 8\n");
-        check.run("9 at most 30 in all", each(1, 10, "push() = #") + "save() = 1\n" + each(1, 20, "push() = #")
+        check.run("9 at most 30 in all", Lines.each(1, 10, "push() = #") + "save() = 1\n"
+            + Lines.each(1, 20, "push() = #")
             + "push() = throws.UnsupportedOperationException\n used() = 306\n pop() = 19\n push() = 20\n"
             + "push() = throws.UnsupportedOperationException\n restore(1) = 1\n push() = 11\n");
-        check.idle("9 refused", BUSY + each(2, 28, "state(0, #) = -4\n push() = #\n state(0, -4) = #"),
+        check.idle("9 refused", Lines.BUSY + Lines.each(2, 28, "state(0, #) = -4\n push() = #\n state(0, -4) = #"),
             "push() = throws.UnsupportedOperationException\n push() = throws.UnsupportedOperationException\n");
     }
 
     private void promise10Pop() {
-        check.run("10 the last first", each(0, 9, "state(#, 1#) = 0") + "push() = 1\n"
-            + each(0, 9, "state(#, 2#) = 1#") + "push() = 2\n" + each(0, 9, "state(#, 3#) = 2#")
-            + "pop() = 1\n" + each(0, 7, "stateOf(#) = 2#") + each(8, 9, "stateOf(#) = 3#")
-            + "pop() = 0\n" + each(0, 7, "stateOf(#) = 1#") + each(8, 9, "stateOf(#) = 3#")
-            + "pop() = -1\n" + each(0, 7, "stateOf(#) = 1#") + "used() = 0\n");
-        check.idle("10 nothing to pop", BUSY + "pop() = 0\n", "pop() = -1\n pop() = -1\n");
+        check.run("10 the last first", Lines.each(0, 9, "state(#, 1#) = 0") + "push() = 1\n"
+            + Lines.each(0, 9, "state(#, 2#) = 1#") + "push() = 2\n" + Lines.each(0, 9, "state(#, 3#) = 2#")
+            + "pop() = 1\n" + Lines.each(0, 7, "stateOf(#) = 2#") + Lines.each(8, 9, "stateOf(#) = 3#")
+            + "pop() = 0\n" + Lines.each(0, 7, "stateOf(#) = 1#") + Lines.each(8, 9, "stateOf(#) = 3#")
+            + "pop() = -1\n" + Lines.each(0, 7, "stateOf(#) = 1#") + "used() = 0\n");
+        check.idle("10 nothing to pop", Lines.BUSY + "pop() = 0\n", "pop() = -1\n pop() = -1\n");
         check.run("10 not beyond the latest save", """
             state(0, 1) = 0
             push() = 1
@@ -478,30 +434,17 @@ public final class PromisesTest {
             stateOf(0) = 1
             pop() = -1
             """);
-        check.run("10 thirty", thirty());
-    }
-
-    /** Pushes 30 states that differ and pops them. */
-    private static String thirty() {
-        StringBuilder lines = new StringBuilder();
-        for (int k = 1; k <= 30; k++) {
-            lines.append("state(0, ").append(k).append(") = ").append(k - 1).append('\n');
-            lines.append("push() = ").append(k).append('\n');
-        }
-        for (int k = 30; k >= 1; k--) {
-            lines.append("pop() = ").append(k - 1).append('\n');
-            lines.append("stateOf(0) = ").append(k).append('\n');
-        }
-        return lines.toString();
+        check.run("10 thirty", Lines.each(1, 30, "state(0, #) = @\n push() = #")
+            + Lines.eachDown(30, 1, "pop() = @\n stateOf(0) = #"));
     }
 
     private void promise11Bytes() {
         check.run("11 values", "object(false) = 0\n object(true) = 1\n"
-            + each(0, 7, "bytes(0, #, 10#) = 0\n bytes(1, #, 20#) = 0")
-            + each(0, 7, "bytes(0, #, -1) = 10#\n bytes(0, #, -1) = 10#\n bytes(1, #, -1) = 20#")
+            + Lines.each(0, 7, "bytes(0, #, 10#) = 0\n bytes(1, #, 20#) = 0")
+            + Lines.each(0, 7, "bytes(0, #, -1) = 10#\n bytes(0, #, -1) = 10#\n bytes(1, #, -1) = 20#")
             + "bytes(0, 0, 255) = 100\n bytes(0, 0, 0) = 255\n bytes(0, 0, 128) = 0\n bytes(0, 0, -1) = 128\n"
-            + each(0, 7, "get(0, #) = 0"));
-        check.idle("11 refused", BUSY, """
+            + Lines.each(0, 7, "get(0, #) = 0"));
+        check.idle("11 refused", Lines.BUSY, """
             bytes(4, 0, 1) = throws.NoSuchElementException
             bytes(-1, 0, 1) = throws.NoSuchElementException
             bytes(%s, 0, 1) = throws.NoSuchElementException
@@ -516,7 +459,7 @@ public final class PromisesTest {
             bytes(0, 0, -2) = throws.IndexOutOfBoundsException
             bytes(0, 0, %s) = throws.IndexOutOfBoundsException
             bytes(0, 0, %s) = throws.IndexOutOfBoundsException
-            """.formatted(LEAST, GREATEST, LEAST, GREATEST, LEAST, GREATEST));
+            """.formatted(Lines.LEAST, Lines.GREATEST, Lines.LEAST, Lines.GREATEST, Lines.LEAST, Lines.GREATEST));
         check.run("11 stay behind a restore", """
             object(false) = 0
             bytes(0, 7, 1) = 0
@@ -584,12 +527,12 @@ public final class PromisesTest {
             old(1) = 0
             old(3) = 0
             """);
-        check.idle("13 refused", BUSY, """
+        check.idle("13 refused", Lines.BUSY, """
             old(4) = throws.NoSuchElementException
             old(-1) = throws.NoSuchElementException
             old(%s) = throws.NoSuchElementException
             old(%s) = throws.NoSuchElementException
-            """.formatted(LEAST, GREATEST));
+            """.formatted(Lines.LEAST, Lines.GREATEST));
     }
 
     private void promise14Deepest() {
@@ -608,7 +551,7 @@ public final class PromisesTest {
             save() = 4
             deepest() = 2
             """);
-        check.run("14 sixteen", each(1, 16, "save() = #\n deepest() = #")
+        check.run("14 sixteen", Lines.each(1, 16, "save() = #\n deepest() = #")
             + "save() = throws.UnsupportedOperationException\n deepest() = 16\n");
     }
 }
