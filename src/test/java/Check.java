@@ -77,7 +77,8 @@ final class Check {
         }
         calls.addAll(List.of("state(8, 0)", "state(9, 0)"));
         for (int save = 17; save >= 1; save--) {
-            calls.addAll(List.of("used()", "pop()", "stateOf(0)", "restore(" + save + ")", "get(0, 0)", "get(2, 3)"));
+            calls.addAll(List.of("used()", "pop()", "stateOf(0)", "restore(" + save + ")"));
+            calls.addAll(List.of("stateOf(0)", "get(0, 0)", "get(2, 3)"));
         }
         calls.addAll(Calls.look(3));
         calls.addAll(List.of("pop()", "stateOf(0)", "object(false)", "object(true)"));

@@ -54,6 +54,10 @@ final class Lines {
         restore(2) = 1
         """;
 
+    /** The 16 saves that may live, with changes behind each, and of every kind behind the last. */
+    static final String SIXTEEN_SAVES = "object(false) = 0\n push() = 1\n"
+        + each(1, 16, "save() = #\n put(0, 0, #) = @\n state(0, #) = @\n push() = 1") + "object(false) = 1\n";
+
     private Lines() {
     }
 

@@ -19,6 +19,7 @@ public final class PromiseEdgesTest {
         tests.promise6LivesNoMore();
         tests.promise6OneBehindLives();
         tests.promise6KeptRefersToNewer();
+        tests.promise6KeptMayRefer();
         tests.promise6FirstThatFits();
         tests.promise7Edges();
         tests.promise8Edges();
@@ -185,12 +186,10 @@ public final class PromiseEdgesTest {
             save() = 39
             save() = throws.UnsupportedOperationException
             """);
-        check.refused(name, Lines.BUSY + Lines.each(3, 16, "save() = #\n put(0, 0, 7) = 7"),
-            Lines.UNSUPPORTED, "save()");
-        check.run(name + ": the refused one takes nothing down", "object(false) = 0\n"
-            + Lines.each(1, 16, "save() = #\n put(0, 0, #) = @\n state(0, #) = @\n push() = 1")
+        check.refused(name, Lines.SIXTEEN_SAVES, Lines.UNSUPPORTED, "save()");
+        check.run(name + ": then each goes back to what was", Lines.SIXTEEN_SAVES
             + "save() = throws.UnsupportedOperationException\n"
-            + Lines.eachDown(16, 1, "restore(#) = 1\n get(0, 0) = @\n stateOf(0) = @") + "used() = 12\n save() = 17\n");
+            + Lines.eachDown(16, 1, "restore(#) = 1\n get(0, 0) = @\n stateOf(0) = @") + "used() = 22\n save() = 17\n");
     }
 
     private void promise6NeverMade() {
@@ -264,6 +263,22 @@ public final class PromiseEdgesTest {
             restore(1) = 1
             stateOf(9) = 2
             """);
+        check.run(name + ": the one made just behind it", """
+            object(false) = 0
+            save() = 1
+            object(false) = 1
+            object(false) = 2
+            state(8, -2) = 0
+            restore(1) = -4
+            state(8, -3) = -2
+            restore(1) = -4
+            state(8, -1) = -3
+            restore(1) = 1
+            """);
+    }
+
+    private void promise6KeptMayRefer() {
+        String name = "6 -4 when a kept parameter refers to a local object that is newer than it";
         check.run(name + ": not a global one, though newer", """
             save() = 1
             object(true) = 0
@@ -281,18 +296,6 @@ public final class PromiseEdgesTest {
             state(9, -1) = 0
             restore(1) = 1
             stateOf(8) = -1
-            """);
-        check.run(name + ": the one made just behind it", """
-            object(false) = 0
-            save() = 1
-            object(false) = 1
-            object(false) = 2
-            state(8, -2) = 0
-            restore(1) = -4
-            state(8, -3) = -2
-            restore(1) = -4
-            state(8, -1) = -3
-            restore(1) = 1
             """);
         check.run(name + ": not parameter 7, nor a cell", """
             object(false) = 0
@@ -527,8 +530,23 @@ public final class PromiseEdgesTest {
             pop() = 0
             used() = 0
             """);
-        check.idle("12 asking changes nothing", Lines.BUSY,
-            "used() = 99\n used() = 99\n deepest() = 2\n old(3) = 2\n");
+        check.run("12 asking changes nothing", Lines.BUSY + """
+            used() = 99
+            used() = 99
+            old(3) = 2
+            deepest() = 2
+            used() = 99
+            get(0, 0) = 7
+            restore(2) = 1
+            used() = 65
+            get(0, 0) = 6
+            get(2, 3) = 0
+            stateOf(0) = 4
+            restore(1) = 1
+            used() = 34
+            get(0, 0) = 5
+            stateOf(0) = 2
+            """);
     }
 
     private void promise13Edges() {

@@ -699,8 +699,7 @@ public final class TermsEdgesTest {
         check.refused(name, Lines.BUSY, Lines.ILLEGAL, "put(1, 5, -1)", "put(1, 7, -3)");
         String full = "push() = 1\n save() = 1\n" + Lines.each(0, 199, "object(false) = #");
         check.refused(name, full, Lines.UNSUPPORTED, "object(false)", "object(true)");
-        check.refused(name, Lines.BUSY + Lines.each(3, 16, "save() = #\n state(0, #) = -4\n state(0, -4) = #"),
-            Lines.UNSUPPORTED, "save()");
+        check.refused(name, Lines.SIXTEEN_SAVES, Lines.UNSUPPORTED, "save()");
         check.refused(name, Lines.BUSY + Lines.each(2, 28, "state(0, #) = -4\n push() = #\n state(0, -4) = #"),
             Lines.UNSUPPORTED, "push()");
     }
